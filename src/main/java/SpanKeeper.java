@@ -943,7 +943,8 @@ public final class SpanKeeper {
         }
 
         void less(int i, SpanRow of, int one) {
-            over[i] = of.over[one] || of.low[one] == Long.MIN_VALUE || of.high[one] == Long.MIN_VALUE;
+            // if a high end has no negative, neither has its low end
+            over[i] = of.over[one] || of.low[one] == Long.MIN_VALUE;
             long from = -of.high[one];
             high[i] = -of.low[one];
             low[i] = from;

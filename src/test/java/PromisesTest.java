@@ -21,6 +21,7 @@ public final class PromisesTest {
         promise8Alike();
         promise9Span();
         promise9SpanAtTheLongsEnds();
+        promise9OneEndOver();
         promise9WidthAloneOver();
         promise10Way();
         promise10WayStays();
@@ -226,6 +227,8 @@ public final class PromisesTest {
         partsAre("a*b*a*b", 7, 5, 2, 3, 3);
         partsAre("(a*b)*(a*b)", 7, 4, 2, 3, 2);
         partsAre("a*b+b*a", 7, 5, 2, 3, 2);
+        partsAre("(a-b)*(a-c)", 7, 6, 2, 7, 2);
+        partsAre("(a-b)*(c-b)", 7, 6, 2, 7, 2);
         partsAre("07+7+7*007", 7, 4, 4, 0, 2);
         partsAre("0-1-0*1+0", 9, 6, 3, 0, 3);
         partsAre("a-b+(a-b)", 7, 4, 2, 3, 2);
@@ -337,6 +340,46 @@ public final class PromisesTest {
         due("the least long by a difference", keeper.span(2, 0), Long.MIN_VALUE);
         due("one less", keeper.span(3, 0), OVER);
         due("over in all", keeper.count(3), 2);
+    }
+
+    /** By ends of a alone the one end of the formula, or one of the four products, is no long. */
+    private static void promise9OneEndOver() {
+        String two62 = "a*2*4096*4096*4096*4096*4096";
+        String two63 = "a*4*4096*4096*4096*4096*4096";
+        overIs("the low of a sum", two62 + "+" + two62 + "+b", -1, 1, -1, 0, true);
+        overIs("the low of a sum, just not", two62 + "+" + two62 + "+b", -1, 1, 0, 0, false);
+        overIs("the low of a sum by both lows", two63 + "+b", -1, 1, 0, 1, true);
+        overIs("the high of a sum", two62 + "+" + two62, 1, 1, 0, 0, true);
+        String nearTwo62 = "(8192*8192*8192*8192*1024-1)";
+        overIs("the high of a sum by one", two62 + "+" + nearTwo62 + "+b", 1, 1, 1, 0, true);
+        overIs("the high of a sum, just not", two62 + "+" + nearTwo62 + "+b", 1, 1, 0, 0, false);
+        overIs("the low of a difference", two63 + "-b", -1, 1, 1, 1, true);
+        overIs("the low of a difference, just not", two63 + "-b", -1, 1, -1, 1, false);
+        overIs("the high of a difference", two62 + "--" + two62, 1, 1, 0, 0, true);
+        overIs("low by low", two63 + "*b", -1, 1, 0, 1, true);
+        overIs("low by high", two63 + "*b", -1, 1, 1, 1, true);
+        overIs("high by high", two62 + "*b", 1, 1, 1, 1, true);
+        overIs("high by low", two62 + "*b", 1, 1, -2, 2, true);
+        overIs("none of the four", two62 + "*b", 1, 1, 0, 1, false);
+        overIs("made of one that is over, the first", SIX_NINES + "*0", 0, 0, 0, 0, true);
+        overIs("made of one that is over, the second", "0*(" + SIX_NINES + ")", 0, 0, 0, 0, true);
+        overIs("less a low", "-(" + two63 + ")", -1, 1, 0, 0, true);
+        overIs("less a high", "-(" + two62 + ")", 1, 1, 0, 0, false);
+        overIs("-1 by a great one", "a*(4*4096*4096*4096*4096*4096)", -1, 0, 0, 0, false);
+        overIs("-1 by the least long", "a*(-8*4096*4096*4096*4096*4096)", -1, 0, 0, 0, true);
+        overIs("1 by the least long", "a*(-8*4096*4096*4096*4096*4096)", 1, 0, 0, 0, false);
+        overIs("0 by the least long", "a*(-8*4096*4096*4096*4096*4096)", 0, 0, 0, 0, false);
+        SpanKeeper keeper = with("4*4096*4096*4096*4096*4096-1--4*4096*4096*4096*4096*4096", two62 + "+" + two62);
+        Expect.stand(keeper, 0, -1, 1);
+        due("the greatest long by a difference", keeper.span(0, 1), Long.MAX_VALUE);
+        due("the least long by a sum", keeper.span(1, 0), Long.MIN_VALUE);
+    }
+
+    private static void overIs(String what, String text, int a, int aSpan, int b, int bSpan, boolean over) {
+        SpanKeeper keeper = with(text);
+        Expect.stand(keeper, 0, a, aSpan);
+        Expect.stand(keeper, 1, b, bSpan);
+        due(what, keeper.count(3), over ? 1 : 0);
     }
 
     private static void promise9WidthAloneOver() {
@@ -467,6 +510,13 @@ public final class PromisesTest {
         due("a*a by a to 0", keeper.rises(1, 0), 2);
         due("a-a is flat", keeper.rises(2, 0), 0);
         due("0 times", keeper.rises(3, 0), 0);
+        SpanKeeper less = with("-a", "-(a-b)", "a+b", "b+a", "a-b*5");
+        due("-a", less.rises(0, 0), 2);
+        due("-(a-b) by a", less.rises(1, 0), 2);
+        due("-(a-b) by b", less.rises(1, 1), 1);
+        due("a+b", less.rises(2, 0), 1);
+        due("b+a", less.rises(3, 0), 1);
+        due("a-b*5", less.rises(4, 1), 2);
         due("by b", keeper.rises(3, 1), 1);
         due("over", keeper.rises(5, 0), SpanKeeper.PAST);
         due("none", keeper.rises(6, 0), SpanKeeper.NONE);
@@ -573,6 +623,9 @@ public final class PromisesTest {
         Expect.stand(keeper, 0, 10, 1);
         Expect.stand(keeper, 1, 2, 1);
         due("b widens most", keeper.widest(0), 1);
+        keeper.set(0, 1, 20);
+        due("a widens most, b less so", keeper.widest(0), 0);
+        keeper.set(0, 1, 1);
         keeper.set(2, 1, 20);
         due("c widens most", keeper.widest(0), 2);
         due("none", keeper.widest(4), SpanKeeper.NONE);
@@ -663,6 +716,11 @@ public final class PromisesTest {
         due("wrong what", keeper.fits(0, 0, 0, 2), SpanKeeper.NONE);
         due("wrong what", keeper.fits(0, 0, 0, -1), SpanKeeper.NONE);
         due("values are as they were", keeper.of(0, 0), 99);
+        SpanKeeper two = with("a+b");
+        due("a by b at 0", two.fits(0, 0, 1, 1), 1);
+        due("b by a at 0", two.fits(0, 1, 1, 1), 1);
+        two.set(0, 0, 5);
+        due("b by a at 5", two.fits(0, 1, 1, 1), -4);
     }
 
     private static void promise20Odds() {
@@ -905,9 +963,21 @@ public final class PromisesTest {
         keeper.drop();
         keeper.drop();
         keeper.plan(-1, 0, 0);
+        keeper.plan(1, 2, 4);
         due("undo again", keeper.undo(), 2);
         due("value", keeper.of(0, 0), 5);
+        due("formulas", keeper.exact(0), 5);
+        due("formulas", keeper.parts(1, 0), 3);
         due("the plan", keeper.count(2), 1);
+        due("the plan's row", keeper.ends(0), 2);
+        keeper.plan(-1, 0, 0);
+        keeper.plan(0, 0, 9);
+        keeper.undo();
+        due("what the plan's row does", keeper.ends(0), 2);
+        keeper.plan(-1, 0, 0);
+        keeper.plan(0, 1, 9);
+        keeper.undo();
+        due("what it becomes", keeper.ends(0), 2);
         keeper.drop();
         due("another image", keeper.image(), 1);
         keeper.feed('1');
@@ -937,6 +1007,7 @@ public final class PromisesTest {
         due("rows", keeper.count(2), 3);
         due("over, without one of which the width alone is", keeper.count(3), 2);
         due("sources with a span", keeper.count(4), 3);
+        due("the first one that is over counts", with(SIX_NINES, "a").count(3), 1);
         due("wrong", keeper.count(5), SpanKeeper.BAD);
         due("wrong", keeper.count(-1), SpanKeeper.BAD);
     }
