@@ -107,6 +107,9 @@ public final class EdgesOfSpansTest extends Edges {
         overIs(LEAST + "+a", 0, 2, 0, 0, false);
         overIs(LEAST + "+a", -1, 1, 0, 0, true);
         overIs("a+" + LEAST, -1, 1, 0, 0, true);
+        overIs("a+" + LEAST, 0, 0, 0, 0, false);
+        overIs("a*" + TWO62 + "+b*" + TWO62, -1, -1, -1, -1, false);
+        overIs("a*" + TWO62 + "+b*" + TWO62, -2, -2, -1, -1, true);
     }
 
     /** "OVER is a PART, one number of which is no long": a difference below the least long */
@@ -739,6 +742,18 @@ public final class EdgesOfSpansTest extends Edges {
     void promise13ByAnotherSourceItIsFlat() {
         changeIs("a*" + TOO_GREAT, 0, 0, 0, 0, 1, 0);
         changeIs("a*" + TOO_GREAT, 0, 0, -5, 5, 5, 0);
+    }
+
+    /** Each call tells of its own formula and source alone, whatever was asked ahead of it. */
+    void promise13WhateverWasAskedAhead() {
+        SpanKeeper keeper = with("a*" + TOO_GREAT, "a", "7", "7-8*9", "b+7");
+        due("rises(0, 0), a number of it no long", keeper.rises(0, 0), 3);
+        due("rises(3, 0)", keeper.rises(3, 0), 0);
+        due("rises(1, 0)", keeper.rises(1, 0), 1);
+        due("rises(2, 0)", keeper.rises(2, 0), 0);
+        due("rises(4, 0)", keeper.rises(4, 0), 0);
+        due("rises(4, 1)", keeper.rises(4, 1), 1);
+        due("rises(2, 1)", keeper.rises(2, 1), 0);
     }
 
     /** "PAST: it is OVER": by a source that does not stand in it, too; a WIDTH alone does not matter */
